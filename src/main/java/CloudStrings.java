@@ -823,11 +823,8 @@ public final class CloudStrings {
             return trial.wetness[village];
         }
 
-        /** most[c][k]: what clouds c and above give at most by just k strings. */
+        /** most[c][k]: the most that clouds c and above give by k strings or fewer; behind the last cloud nothing. */
         private void learnMost(int has) {
-            for (int k = 0; k <= has; k++) {
-                most[CLOUDS][k] = k == 0 ? 0 : NEVER;
-            }
             for (int c = CLOUDS - 1; c >= 0; c--) {
                 for (int k = 0; k <= has; k++) {
                     most[c][k] = NEVER;
@@ -838,6 +835,7 @@ public final class CloudStrings {
             }
         }
 
+        /** As no fewer strings are enough, a row that is enough has just so many. */
         private void layFirstRow(int strings, int lacks) {
             int left = strings;
             int missing = lacks;

@@ -23,6 +23,10 @@ abstract class Due {
         due(what, want ? 1 : 0, got ? 1 : 0);
     }
 
+    static int failures() {
+        return failed;
+    }
+
     static void end() {
         System.out.println(passed + " passed, " + failed + " failed");
         if (failed != 0) {

@@ -77,6 +77,9 @@ public final class HoursTest extends Due {
         x.cloud(WHITE, 12, 99);
         x.cloud(THUNDER, 12, 99);
         x.cloud(SALT, 11, 99);
+        x.cloud(SMALL, 2, 99);
+        x.hold(1, 3, 1);
+        x.hold(0, 3, 1);
         x.hold(0, 0, 1);
         x.hold(0, 1, 3);
         x.hold(0, 2, 2);
@@ -84,6 +87,7 @@ public final class HoursTest extends Due {
         due("1 is less than the need of 2", 13, x.told(0, 1));
         due("3 is less than the need of 4", 13, x.told(1, 1));
         due("2 pulls against 2", 10, x.told(2, 1));
+        due("1 and 1 hold a small one", 2, x.told(3, 1));
         x.hold(1, 0, 1);
         x.hold(1, 1, 1);
         x.pass(1);
@@ -175,6 +179,10 @@ public final class HoursTest extends Due {
         due("up to 9998", 76, x.pass(38));
         x.seed(1);
         due("refused at 9998", FULL, x.drawn(2));
+        x.image();
+        due("9999 by winds that are drawn", true, x.drawn(1) >= 0);
+        due("hour", 9999, x.count(2));
+        x.restore();
         due("9999", 2, x.pass(1));
         due("hour", 9999, x.count(2));
         due("full", FULL, x.pass(1));

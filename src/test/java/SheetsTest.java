@@ -3,6 +3,7 @@ public final class SheetsTest extends Due {
     public static void main(String[] args) {
         promise = 25;
         held();
+        heldByFour();
         heldOrder();
         promise = 26;
         film();
@@ -77,6 +78,36 @@ public final class SheetsTest extends Due {
         y.sheet(1, INTS, 3);
         tellWet(y, 1, INTS, 0, Integer.MIN_VALUE, Integer.MAX_VALUE, -1);
         due("far numbers", 0, y.held(12, 1, INTS, 0, -1));
+    }
+
+    private static void heldByFour() {
+        CloudStrings x = new CloudStrings();
+        x.village(11, 9, 0);
+        x.village(13, 3, 0);
+        x.village(7, 3, 0);
+        x.village(17, 3, 0);
+        x.cloud(WHITE, 12, 99);
+        x.sheet(0, INTS, 4);
+        tellWet(x, 0, INTS, 0, 2, 0, 0, 0);
+        due("9 against all others", 8, x.held(1, 0, INTS, 0, -1));
+        due("the last one, too", 0, x.held(1, 0, INTS, 0, 3));
+        x.set(0, 0, 8);
+        due("8 against all others but one", 7, x.held(1, 0, INTS, 0, -1));
+        due("the third", 0, x.held(1, 0, INTS, 0, 2));
+        due("not the last one", 6, x.held(1, 0, INTS, 0, 3));
+        tellWet(x, 0, INTS, 0, 0, 0, 0, 0);
+        // all four hold it where it is; so do all but the first; and nobody does
+        due("nobody pulls it", 3, x.held(1, 0, INTS, 0, -1));
+        for (int v = 0; v < 4; v++) {
+            due("all four", 0, x.held(1, 0, INTS, 0, v));
+        }
+        for (int v = 0; v < 4; v++) {
+            x.set(v, 0, 0);
+        }
+        for (int cloud = 1; cloud < 6; cloud++) {
+            x.cloud(WHITE, 0, 9);
+        }
+        due("all rows of six clouds and none", 2401, x.held(12, 0, INTS, 0, -1));
     }
 
     private static void heldOrder() {
@@ -323,6 +354,10 @@ public final class SheetsTest extends Due {
         due("the same place", 6, x.copy(0, 0, 0, 0, 6));
         due("no items", 0, x.copy(0, 0, 1, 0, 0));
         due("no items at the ends", 0, x.copy(0, 6, 1, 4, 0));
+        x.sheet(3, SHORTS, 2);
+        due("to the last sheet", 2, x.copy(0, 0, 3, 0, 2));
+        due("1 0", 0b10, zeros(x, 3, 2));
+        due("from the last sheet", 2, x.copy(3, 0, 3, 0, 2));
         due("no items, i above", INDEX, x.copy(0, 7, 1, 0, 0));
         due("no items, j above", INDEX, x.copy(0, 0, 1, 5, 0));
         due("i below 0", INDEX, x.copy(0, -1, 1, 0, 0));
