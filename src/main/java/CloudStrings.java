@@ -738,9 +738,15 @@ public final class CloudStrings {
         }
 
         private static int towards(int from, int to) {
-            int rows = Integer.compare(to / EDGE, from / EDGE);
-            int columns = Integer.compare(to % EDGE, from % EDGE);
-            return rows != 0 ? from + EDGE * rows : from + columns;
+            int rows = to / EDGE - from / EDGE;
+            int columns = to % EDGE - from % EDGE;
+            if (rows != 0) {
+                return rows > 0 ? from + EDGE : from - EDGE;
+            }
+            if (columns != 0) {
+                return columns > 0 ? from + 1 : from - 1;
+            }
+            return from;
         }
 
         private static int besides(int from, int side) {

@@ -7,6 +7,7 @@ abstract class Due {
     static final int[] WRONG = {-1, Integer.MIN_VALUE, Integer.MAX_VALUE};
 
     static int promise = 0;
+    static String sentence = "";
     private static int passed = 0;
     private static int failed = 0;
 
@@ -16,11 +17,18 @@ abstract class Due {
             return;
         }
         failed++;
-        System.out.println("promise " + promise + ": " + what + " answered " + got + ", due is " + want);
+        String where = sentence.isEmpty() ? "" : " (" + sentence + ")";
+        System.out.println("promise " + promise + where + ": " + what + " answered " + got + ", due is " + want);
     }
 
     static void due(String what, boolean want, boolean got) {
         due(what, want ? 1 : 0, got ? 1 : 0);
+    }
+
+    /** The tests that come next are of this promise, and of these words of the document. */
+    static void says(int itsPromise, String words) {
+        promise = itsPromise;
+        sentence = words;
     }
 
     static int failures() {
