@@ -163,7 +163,9 @@ public final class CompiledTest extends Due {
             in.skipBytes(4);
             byte[] code = new byte[in.readInt()];
             in.readFully(code);
-            due("rule 6: " + name + " catches nothing", 0, in.readUnsignedShort());
+            int catches = in.readUnsignedShort();
+            due("rule 6: " + name + " catches nothing", 0, catches);
+            in.skipBytes(8 * catches);
             skipAttributes(in);
             calls.put(key, new ArrayList<>());
             readCode(name, key, code, pool);
